@@ -1,0 +1,111 @@
+import java.nio.charset.StandardCharsets;
+
+/** What the tests share: comparing answers, and filling the input buffer with a text. */
+final class Check {
+    interface Call {
+        long answer();
+    }
+
+    private static int wrong = 0;
+    private static int compared = 0;
+
+    private Check() {
+    }
+
+    static void due(String what, long got, long want) {
+        compared++;
+        if (got != want) {
+            wrong++;
+            System.out.println(what + ": answered " + got + ", due is " + want);
+        }
+    }
+
+    static void due(String what, boolean got, boolean want) {
+        due(what, got ? 1 : 0, want ? 1 : 0);
+    }
+
+    static void due(String what, double got, double want) {
+        compared++;
+        if (got != want) {
+            wrong++;
+            System.out.println(what + ": answered " + got + ", due is " + want);
+        }
+    }
+
+    static void due(String what, String got, String want) {
+        compared++;
+        if (!got.equals(want)) {
+            wrong++;
+            System.out.println(what + ": answered \"" + got + "\", due is \"" + want + "\"");
+        }
+    }
+
+    /** The class itself is compared, so that a subclass thrown by the machine is told apart. */
+    static void throwing(String what, Class<? extends Exception> want, Call call) {
+        String thrown = "nothing";
+        try {
+            call.answer();
+        } catch (RuntimeException e) {
+            thrown = e.getClass().getSimpleName();
+        }
+        due(what + " throws", thrown, want.getSimpleName());
+    }
+
+    static void noIndex(String what, Call call) {
+        throwing(what, IndexOutOfBoundsException.class, call);
+    }
+
+    static void noArgument(String what, Call call) {
+        throwing(what, IllegalArgumentException.class, call);
+    }
+
+    static void noState(String what, Call call) {
+        throwing(what, IllegalStateException.class, call);
+    }
+
+    /** Appends a text of Latin 1 to the input buffer, whose length is given. */
+    static int send(ColophonDetective detective, int length, String text) {
+        byte[] bytes = text.getBytes(StandardCharsets.ISO_8859_1);
+        for (int at = 0; at < bytes.length; at += 20) {
+            detective.append(word(bytes, at), word(bytes, at + 4), word(bytes, at + 8),
+                    word(bytes, at + 12), word(bytes, at + 16));
+        }
+        return detective.truncate(length + bytes.length);
+    }
+
+    private static int word(byte[] bytes, int at) {
+        int word = 0;
+        for (int i = at; i < at + 4; i++) {
+            word = word << 8 | (i < bytes.length ? bytes[i] & 255 : ' ');
+        }
+        return word;
+    }
+
+    /** A new detective with a configuration of its own. */
+    static ColophonDetective detectiveOf(String configuration) {
+        ColophonDetective detective = new ColophonDetective();
+        send(detective, 0, configuration);
+        detective.load();
+        return detective;
+    }
+
+    static int run(ColophonDetective detective, String commands) {
+        send(detective, 0, commands);
+        return detective.executeCommands();
+    }
+
+    static String outputOf(ColophonDetective detective) {
+        StringBuilder text = new StringBuilder();
+        for (int i = 0; i < 2000 && detective.outputByte(i) != ColophonDetective.NONE; i++) {
+            text.append((char) detective.outputByte(i));
+        }
+        return text.toString();
+    }
+
+    static void finish(String test) {
+        System.out.println(test + ": " + compared + " answers compared, " + wrong + " wrong");
+        if (wrong != 0) {
+            System.exit(1);
+        }
+    }
+}
