@@ -1033,9 +1033,11 @@ public final class ColophonDetective {
             System.arraycopy(other.kinds, 0, kinds, 0, CLUE_LIMIT);
             System.arraycopy(other.values, 0, values, 0, CLUE_LIMIT);
             System.arraycopy(other.weights, 0, weights, 0, CLUE_LIMIT);
-            System.arraycopy(other.known, 0, known, 0, CLUE_LIMIT);
-            System.arraycopy(other.dropped, 0, dropped, 0, CLUE_LIMIT);
             System.arraycopy(other.order, 0, order, 0, CLUE_LIMIT);
+            for (int clue = 0; clue < CLUE_LIMIT; clue++) {
+                known[clue] = other.known[clue];
+                dropped[clue] = other.dropped[clue];
+            }
         }
 
         boolean has(int clue) {

@@ -244,6 +244,11 @@ public final class InputTest {
             }
         }
         faultyAt(PRINTER + "|book a 1;", SYNTAX);
+        for (String word : new String[] {"printer", "device", "type", "mark", "edition", "clue"}) {
+            faultyAt(PRINTER + "|x" + word.substring(1) + " a 1;", SYNTAX);
+            faultyAt(PRINTER + "|" + word.substring(0, word.length() - 1) + "x a 1;", SYNTAX);
+            faultyAt(PRINTER + "|" + word + "s a 1;", SYNTAX);
+        }
         faultyAt(PRINTER + "|year a 1;", SYNTAX);
         faultyAt(EIGHT + "type a 1;|printer", SYNTAX);
     }
@@ -360,6 +365,14 @@ public final class InputTest {
         Check.due("all of it is undone", x.clueCount(), 6);
         Check.due("all of it is undone", x.isRead(0), false);
         Check.due("all of it is undone", x.hasDevice(0, 4), true);
+        Check.due("the smallest numbers", Check.run(x, "aside 0;back 0;weigh 0 1;clue 1 device 0 1;"), 4);
+        Check.due("weigh 0", x.weightOf(0), 1);
+        x.undo();
+        ColophonDetective y = Check.detectiveOf(PRINTER + "printer b 1 1500 1500;device a 0;");
+        Check.due("the smallest device", Check.run(y, "lend a b 0;"), 1);
+        Check.due("the smallest device", y.hasDevice(1, 0), true);
+        Check.due("the greatest numbers", Check.run(y, "clue 999 device 31 9;".repeat(29)), 29);
+        Check.due("the greatest numbers", Check.run(y, "clue 999 device 31 9;".repeat(11) + "read 40;weigh 39 9;aside 39;back 39;"), 15);
         Check.due("no command", Check.run(x, ""), 0);
         Check.due("no command", Check.run(x, "   "), 0);
         Check.due("they are operations", x.undo(), 1);
@@ -414,6 +427,16 @@ public final class InputTest {
         faultyCommands("read 1;clue 1 city 1 |0;", RANGE);
         faultyCommands("read 1;clue 1 city 1 |10;", RANGE);
         faultyCommands("read 1;|#", SYNTAX);
+        for (String word : new String[] {"clue", "read", "aside", "back", "weigh", "lend"}) {
+            faultyCommands("read 1;|x" + word.substring(1) + " 1;", SYNTAX);
+            faultyCommands("read 1;|" + word.substring(0, word.length() - 1) + "x 1;", SYNTAX);
+            faultyCommands("read 1;|" + word.substring(0, word.length() - 1) + " 1;", SYNTAX);
+        }
+        for (String word : new String[] {"device", "type", "mark", "city", "year"}) {
+            faultyCommands("read 1;clue 1 |x" + word.substring(1) + " 1 1;", SYNTAX);
+            faultyCommands("read 1;clue 1 |" + word.substring(0, word.length() - 1) + "x 1 1;", SYNTAX);
+            faultyCommands("read 1;clue 1 |" + word + "s 1 1;", SYNTAX);
+        }
     }
 
     private static void promise5Limit() {

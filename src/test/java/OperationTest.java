@@ -145,6 +145,12 @@ public final class OperationTest {
         Check.due("still aside", x.isAside(1), true);
         Check.due("each call is an operation", x.undo(), 2);
         Check.due("undone", x.isAside(1), false);
+        ColophonDetective y = Check.detectiveOf(ONE + "clue 1 city 2 1;clue 2 city 1 1;clue 3 city 2 1;clue 1 city 3 1;");
+        y.read(3);
+        y.setAside(2);
+        Check.due("clue 0 alone: clue 2 is aside, clue 3 unread", y.setAsideUnexplained(), 1);
+        Check.due("clue 0", y.isAside(0), true);
+        Check.due("clue 3", y.isAside(3), false);
     }
 
     private static void promise59() {
@@ -191,6 +197,9 @@ public final class OperationTest {
         ColophonDetective y = Check.detectiveOf("printer a 1 1500 1510;printer b 1 1500 1510;device a 31;device a 0;");
         Check.due("device 31", y.transferDevice(0, 1, 31), 1);
         Check.due("device 0 stays", y.hasDevice(0, 0), true);
+        Check.due("device 0", y.transferDevice(0, 1, 0), 1);
+        Check.due("device 0 is gone", y.hasDevice(0, 0), false);
+        Check.due("device 0 is there", y.hasDevice(1, 0), true);
         Check.due("device 31 is there", y.hasDevice(1, 31), true);
         Check.due("device 31 is gone", y.hasDevice(0, 31), false);
     }

@@ -6,8 +6,10 @@ public final class VerdictTest {
         promise28();
         promise29();
         promises30To32();
+        edgeYears();
         promise33();
         promises34To37();
+        freshAnswers();
         promises38And39();
         promise40();
         promises41And42();
@@ -112,6 +114,17 @@ public final class VerdictTest {
         }
     }
 
+    private static void edgeYears() {
+        ColophonDetective x = Check.detectiveOf("printer a 1 1450 1999;");
+        for (int year : new int[] {1450, 1451, 1452, 1998, 1999}) {
+            x.addDateClue(5, year, 4);
+            x.read(1);
+            bests(x, new int[][] {{year, 4, 1}});
+            x.undo();
+            x.undo();
+        }
+    }
+
     private static void ranking(String what, ColophonDetective x, int... due) {
         for (int rank = 0; rank < due.length; rank++) {
             Check.due(what + " rank " + rank, x.printerByRank(rank), due[rank]);
@@ -165,6 +178,46 @@ public final class VerdictTest {
         verdict("one printer:", one, 0, 1600, 0, 0);
         one.read(2);
         verdict("one printer:", one, 0, 1600, 4, 4);
+    }
+
+    private interface Question {
+        long ask(ColophonDetective detective);
+    }
+
+    // Each question is the first one after a change, and the last printer is the one of the verdict.
+    private static void freshAnswers() {
+        freshAnswer("verdictPrinter", 7, x -> x.verdictPrinter());
+        freshAnswer("verdictYear", 1605, x -> x.verdictYear());
+        freshAnswer("verdictScore", 9, x -> x.verdictScore());
+        freshAnswer("margin", 5, x -> x.margin());
+        freshAnswer("unexplainedCount", 1, x -> x.unexplainedCount());
+        freshAnswer("unexplainedClue", 2, x -> x.unexplainedClue(0));
+        freshAnswer("matchingEdition", 0, x -> x.matchingEdition());
+        freshAnswer("printerByRank", 7, x -> x.printerByRank(0));
+        freshAnswer("bestYear", 1605, x -> x.bestYear(7));
+        freshAnswer("bestScore", 9, x -> x.bestScore(7));
+        freshAnswer("bestYears", 1, x -> x.bestYears(7));
+        freshAnswer("printerAfter", 7, x -> x.printerAfter(3));
+        freshAnswer("yearAfter", 1605, x -> x.yearAfter(3));
+        freshAnswer("cluesUntilChange", -1, x -> x.cluesUntilChange());
+        freshAnswer("decisiveClue", 0, x -> x.decisiveClue());
+        freshAnswer("rankingErrors", 0, x -> x.rankingErrors());
+        freshAnswer("confidence", 9, x -> (long) (x.confidence() * 13.0 + 0.5));
+        freshAnswer("formatVerdict", 12, x -> x.formatVerdict());
+        freshAnswer("setAsideUnexplained", 1, x -> x.setAsideUnexplained());
+        freshAnswer("setAside", 7, x -> x.setAside(1));
+    }
+
+    private static void freshAnswer(String what, long due, Question question) {
+        ColophonDetective x = new ColophonDetective();
+        x.read(6);
+        x.verdictPrinter();
+        Check.send(x, 0, "printer a 1 1500 1500;printer b 1 1500 1500;printer c 1 1500 1500;printer d 1 1500 1500;"
+                + "printer e 1 1500 1500;printer f 1 1500 1500;printer g 1 1500 1500;printer h 2 1600 1610;"
+                + "edition h 1606;clue 9 city 2 7;clue 8 year 1605 2;clue 7 city 1 4;");
+        x.load();
+        x.read(3);
+        Check.due(what, question.ask(x), due);
     }
 
     private static void unexplained(ColophonDetective x, int... due) {
@@ -358,5 +411,11 @@ public final class VerdictTest {
         y.read(1);
         Check.due("nothing is explained", y.confidence(), 0.0);
         Check.due("ranking errors", y.rankingErrors(), 0);
+        y.addCityClue(1, 1, 1);
+        y.setAside(0);
+        y.read(1);
+        Check.due("a single weight of 1 counts", y.confidence(), 1.0);
+        y.takeBack(0);
+        Check.due("the half of it", y.confidence(), 0.5);
     }
 }
