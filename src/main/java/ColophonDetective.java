@@ -87,7 +87,7 @@ public final class ColophonDetective {
 
     // ---- the input buffer and what is read from it
 
-    public int append(int a, int b, int c, int d, int e) {
+    public int append(int a, int b, int c, int d, int e) throws IllegalStateException {
         if (!input.hasRoomFor(APPENDED_BYTES)) {
             throw new IllegalStateException("the input buffer is full");
         }
@@ -99,7 +99,7 @@ public final class ColophonDetective {
         return input.length;
     }
 
-    public int truncate(int length) {
+    public int truncate(int length) throws IllegalArgumentException {
         if (length < 0 || length > input.length) {
             throw new IllegalArgumentException("no such length");
         }
@@ -107,7 +107,7 @@ public final class ColophonDetective {
         return input.length;
     }
 
-    public int load() {
+    public int load() throws IllegalArgumentException {
         boolean isSound = configuration.fillFrom(input);
         input.cutTo(0);
         if (!isSound) {
@@ -118,7 +118,7 @@ public final class ColophonDetective {
         return book.clues.count;
     }
 
-    public int executeCommands() {
+    public int executeCommands() throws IllegalArgumentException {
         boolean isSound = commands.fillFrom(input, book.archive);
         input.cutTo(0);
         if (!isSound) {
@@ -151,23 +151,24 @@ public final class ColophonDetective {
         return book.archive.printerNamed(input.packedName(0, input.length));
     }
 
-    public int cityOf(int printer) {
+    public int cityOf(int printer) throws IndexOutOfBoundsException {
         requirePrinter(printer);
         return book.archive.cities[printer];
     }
 
-    public boolean isActive(int printer, int year) {
+    public boolean isActive(int printer, int year)
+            throws IndexOutOfBoundsException, IllegalArgumentException {
         requirePrinter(printer);
         requireYear(year);
         return book.archive.worksIn(printer, year);
     }
 
-    public boolean hasDevice(int printer, int device) {
+    public boolean hasDevice(int printer, int device) throws IndexOutOfBoundsException {
         requirePrinter(printer);
         return book.archive.ownsDevice(printer, device);
     }
 
-    public boolean hasTypeface(int printer, int typeface) {
+    public boolean hasTypeface(int printer, int typeface) throws IndexOutOfBoundsException {
         requirePrinter(printer);
         return book.archive.ownsTypeface(printer, typeface);
     }
@@ -180,7 +181,7 @@ public final class ColophonDetective {
         return book.archive.watermarks;
     }
 
-    public int watermarksOf(int year) {
+    public int watermarksOf(int year) throws IllegalArgumentException {
         requireYear(year);
         int count = 0;
         for (int mark = 0; mark < book.archive.watermarks; mark++) {
@@ -201,32 +202,32 @@ public final class ColophonDetective {
         return book.clues.count;
     }
 
-    public int kindOf(int clue) {
+    public int kindOf(int clue) throws IndexOutOfBoundsException {
         requireClue(clue);
         return book.clues.kinds[clue];
     }
 
-    public int valueOf(int clue) {
+    public int valueOf(int clue) throws IndexOutOfBoundsException {
         requireClue(clue);
         return book.clues.values[clue];
     }
 
-    public int pageOf(int clue) {
+    public int pageOf(int clue) throws IndexOutOfBoundsException {
         requireClue(clue);
         return book.clues.pages[clue];
     }
 
-    public int weightOf(int clue) {
+    public int weightOf(int clue) throws IndexOutOfBoundsException {
         requireClue(clue);
         return book.clues.weights[clue];
     }
 
-    public boolean isRead(int clue) {
+    public boolean isRead(int clue) throws IndexOutOfBoundsException {
         requireClue(clue);
         return book.clues.known[clue];
     }
 
-    public boolean isAside(int clue) {
+    public boolean isAside(int clue) throws IndexOutOfBoundsException {
         requireClue(clue);
         return book.clues.dropped[clue];
     }
@@ -251,14 +252,16 @@ public final class ColophonDetective {
 
     // ---- candidates, the ranking and the verdict
 
-    public boolean explains(int printer, int year, int clue) {
+    public boolean explains(int printer, int year, int clue)
+            throws IndexOutOfBoundsException, IllegalArgumentException {
         requirePrinter(printer);
         requireClue(clue);
         requireYear(year);
         return book.archive.worksIn(printer, year) && book.candidateFits(printer, year, clue);
     }
 
-    public int score(int printer, int year) {
+    public int score(int printer, int year)
+            throws IndexOutOfBoundsException, IllegalArgumentException {
         requirePrinter(printer);
         requireYear(year);
         if (!book.archive.worksIn(printer, year)) {
@@ -273,19 +276,19 @@ public final class ColophonDetective {
         return sum;
     }
 
-    public int bestYear(int printer) {
+    public int bestYear(int printer) throws IndexOutOfBoundsException {
         requirePrinter(printer);
         judgePresent();
         return judge.topYears[printer];
     }
 
-    public int bestScore(int printer) {
+    public int bestScore(int printer) throws IndexOutOfBoundsException {
         requirePrinter(printer);
         judgePresent();
         return judge.topScores[printer];
     }
 
-    public int bestYears(int printer) {
+    public int bestYears(int printer) throws IndexOutOfBoundsException {
         requirePrinter(printer);
         judgePresent();
         return judge.topYearCounts[printer];
@@ -347,13 +350,13 @@ public final class ColophonDetective {
         return book.archive.editionNear(judge.winner(), judge.winningYear());
     }
 
-    public boolean contradict(int clue, int other) {
+    public boolean contradict(int clue, int other) throws IndexOutOfBoundsException {
         requireClue(clue);
         requireClue(other);
         return clue != other && !book.canBothHold(clue, other);
     }
 
-    public int contradictionsOf(int clue) {
+    public int contradictionsOf(int clue) throws IndexOutOfBoundsException {
         requireClue(clue);
         int count = 0;
         for (int other = 0; other < book.clues.count; other++) {
@@ -376,13 +379,13 @@ public final class ColophonDetective {
 
     // ---- predictions and checks
 
-    public int printerAfter(int count) {
+    public int printerAfter(int count) throws IllegalArgumentException {
         requirePrediction(count);
         judge.weigh(book, count, NONE);
         return judge.winner();
     }
 
-    public int yearAfter(int count) {
+    public int yearAfter(int count) throws IllegalArgumentException {
         requirePrediction(count);
         judge.weigh(book, count, NONE);
         return judge.winningYear();
@@ -443,27 +446,32 @@ public final class ColophonDetective {
 
     // ---- operations
 
-    public int addDeviceClue(int page, int device, int weight) {
+    public int addDeviceClue(int page, int device, int weight)
+            throws IllegalArgumentException, IllegalStateException {
         return addClue(page, DEVICE, device, weight);
     }
 
-    public int addTypefaceClue(int page, int typeface, int weight) {
+    public int addTypefaceClue(int page, int typeface, int weight)
+            throws IllegalArgumentException, IllegalStateException {
         return addClue(page, TYPEFACE, typeface, weight);
     }
 
-    public int addWatermarkClue(int page, int watermark, int weight) {
+    public int addWatermarkClue(int page, int watermark, int weight)
+            throws IllegalArgumentException, IllegalStateException {
         return addClue(page, WATERMARK, watermark, weight);
     }
 
-    public int addCityClue(int page, int city, int weight) {
+    public int addCityClue(int page, int city, int weight)
+            throws IllegalArgumentException, IllegalStateException {
         return addClue(page, CITY, city, weight);
     }
 
-    public int addDateClue(int page, int year, int weight) {
+    public int addDateClue(int page, int year, int weight)
+            throws IllegalArgumentException, IllegalStateException {
         return addClue(page, DATE, year, weight);
     }
 
-    public int read(int count) {
+    public int read(int count) throws IllegalArgumentException {
         int unread = book.clues.unreadCount();
         history.prepare(book);
         refuse(book.readOn(count));
@@ -471,7 +479,7 @@ public final class ColophonDetective {
         return Math.min(count, unread);
     }
 
-    public int setAside(int clue) {
+    public int setAside(int clue) throws IndexOutOfBoundsException, IllegalStateException {
         history.prepare(book);
         refuse(book.drop(clue));
         history.commit();
@@ -479,7 +487,7 @@ public final class ColophonDetective {
         return judge.winningScore();
     }
 
-    public int takeBack(int clue) {
+    public int takeBack(int clue) throws IndexOutOfBoundsException, IllegalStateException {
         history.prepare(book);
         refuse(book.pickUp(clue));
         history.commit();
@@ -501,7 +509,8 @@ public final class ColophonDetective {
         return count;
     }
 
-    public int setWeight(int clue, int weight) {
+    public int setWeight(int clue, int weight)
+            throws IndexOutOfBoundsException, IllegalArgumentException {
         requireClue(clue);
         int previous = book.clues.weights[clue];
         history.prepare(book);
@@ -510,7 +519,8 @@ public final class ColophonDetective {
         return previous;
     }
 
-    public int transferDevice(int from, int to, int device) {
+    public int transferDevice(int from, int to, int device)
+            throws IndexOutOfBoundsException, IllegalArgumentException, IllegalStateException {
         history.prepare(book);
         refuse(book.lend(from, to, device));
         history.commit();
@@ -519,7 +529,7 @@ public final class ColophonDetective {
 
     // ---- going back
 
-    public int undo() {
+    public int undo() throws IllegalStateException {
         if (history.count <= 0) {
             throw new IllegalStateException("there is no operation to undo");
         }
@@ -533,7 +543,7 @@ public final class ColophonDetective {
         return book.clues.count;
     }
 
-    public int restore() {
+    public int restore() throws IllegalStateException {
         if (!isSaved) {
             throw new IllegalStateException("there is no saved state");
         }

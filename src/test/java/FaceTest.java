@@ -16,7 +16,7 @@ import java.util.regex.Pattern;
 /** The class has the face of the document, and nothing else that is seen from outside. */
 public final class FaceTest {
     private static final Pattern CONSTANT = Pattern.compile("public static final int (\\w+) = (-?\\d+);");
-    private static final Pattern METHOD = Pattern.compile("public (\\w+) (\\w+)\\((.*?)\\)(?: throws .*)?;");
+    private static final Pattern METHOD = Pattern.compile("public (\\w+) (\\w+)\\((.*?)\\)(?: throws (.*))?;");
 
     public static void main(String[] args) throws Exception {
         String face = faceOfDocument();
@@ -70,7 +70,8 @@ public final class FaceTest {
                     parameters.add(parameter.split(" ")[0]);
                 }
             }
-            due.add(matcher.group(1) + " " + matcher.group(2) + parameters);
+            String thrown = matcher.group(4) == null ? "" : matcher.group(4);
+            due.add(matcher.group(1) + " " + matcher.group(2) + parameters + " throws [" + thrown + "]");
         }
         Check.due("methods of the document", due.size(), 64);
         Set<String> found = new TreeSet<>();
@@ -82,7 +83,12 @@ public final class FaceTest {
                 for (Class<?> parameter : method.getParameterTypes()) {
                     parameters.add(parameter.getSimpleName());
                 }
-                found.add(method.getReturnType().getSimpleName() + " " + method.getName() + parameters);
+                List<String> thrown = new ArrayList<>();
+                for (Class<?> exception : method.getExceptionTypes()) {
+                    thrown.add(exception.getSimpleName());
+                }
+                found.add(method.getReturnType().getSimpleName() + " " + method.getName() + parameters
+                        + " throws " + thrown);
                 Check.due(method + " is public", Modifier.isPublic(method.getModifiers()), true);
             }
         }
