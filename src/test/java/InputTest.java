@@ -131,6 +131,19 @@ public final class InputTest {
         Check.due("estien", x.findPrinter(), 1);
         Check.noArgument("truncate(7) of 6", () -> x.truncate(7));
         Check.due("truncate(0)", x.truncate(0), 0);
+        Check.send(x, 0, "read 12");
+        x.truncate(6);
+        Check.noArgument("the text ends too early", () -> x.executeCommands());
+        Check.due("what was cut off is not seen", x.errorPosition(), 6);
+        Check.send(x, 0, "read 1;read 1");
+        x.truncate(7);
+        Check.due("what was cut off is not seen", x.executeCommands(), 1);
+        Check.send(x, 0, "read 1;");
+        x.truncate(6);
+        Check.due("what is appended follows what is left", Check.send(x, 6, "0 ;"), 9);
+        x.setAside(5);
+        Check.due("what is appended follows what is left", x.executeCommands(), 1);
+        Check.due("all were read", x.nextClue(), -1);
     }
 
     private static void sound(String text, int clues) {

@@ -123,6 +123,13 @@ public final class VerdictTest {
             x.undo();
             x.undo();
         }
+        ColophonDetective y = Check.detectiveOf("printer a 1 1451 1999;mark 1450 1450;mark 1998 1999;clue 9 mark 0 4;"
+                + "clue 8 mark 1 4;");
+        y.read(1);
+        bests(y, new int[][] {{1451, 4, 3}});
+        y.setAside(0);
+        y.read(1);
+        bests(y, new int[][] {{1998, 4, 2}});
     }
 
     private static void ranking(String what, ColophonDetective x, int... due) {
