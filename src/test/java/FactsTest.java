@@ -61,11 +61,11 @@ public final class FactsTest {
             Check.due("c in " + year, x.isActive(2, year), year >= 1600 && year <= 1700);
         }
         for (int year : new int[] {1449, 2000, -1, 0, Integer.MIN_VALUE, Integer.MAX_VALUE}) {
-            Check.noArgument("in " + year, () -> x.isActive(0, year) ? 1 : 0);
-            Check.noIndex("the printer is checked first", () -> x.isActive(3, year) ? 1 : 0);
+            Check.noArgument("in " + year, () -> x.isActive(0, year));
+            Check.noIndex("the printer is checked first", () -> x.isActive(3, year));
         }
-        Check.noIndex("no such printer", () -> x.isActive(3, 1500) ? 1 : 0);
-        Check.noIndex("no such printer", () -> x.isActive(-1, 1500) ? 1 : 0);
+        Check.noIndex("no such printer", () -> x.isActive(3, 1500));
+        Check.noIndex("no such printer", () -> x.isActive(-1, 1500));
     }
 
     private static void promises12And13And14() {
@@ -89,8 +89,8 @@ public final class FactsTest {
             Check.due("owners of " + number, x.deviceOwners(number), 0);
         }
         for (int wrong : WRONG) {
-            Check.noIndex("hasDevice of " + wrong, () -> x.hasDevice(wrong, 0) ? 1 : 0);
-            Check.noIndex("hasTypeface of " + wrong, () -> x.hasTypeface(wrong, 0) ? 1 : 0);
+            Check.noIndex("hasDevice of " + wrong, () -> x.hasDevice(wrong, 0));
+            Check.noIndex("hasTypeface of " + wrong, () -> x.hasTypeface(wrong, 0));
         }
     }
 
@@ -148,8 +148,8 @@ public final class FactsTest {
             Check.due(clue + " is aside", x.isAside(clue), clue == 1 || clue == 4);
         }
         for (int wrong : new int[] {-1, 6, 39, 40, Integer.MAX_VALUE, Integer.MIN_VALUE}) {
-            Check.noIndex("isRead " + wrong, () -> x.isRead(wrong) ? 1 : 0);
-            Check.noIndex("isAside " + wrong, () -> x.isAside(wrong) ? 1 : 0);
+            Check.noIndex("isRead " + wrong, () -> x.isRead(wrong));
+            Check.noIndex("isAside " + wrong, () -> x.isAside(wrong));
         }
     }
 

@@ -1,13 +1,13 @@
 /** Promises 1 to 7 and 9: the new object, the input buffer and the two texts that are parsed from it. */
 public final class InputTest {
-    private static final String PRINTER = "printer a 1 1494 1515;";
+    private static final String PRINTER = Texts.PRINTER;
     private static final String EIGHT = "printer a 1 1500 1500;printer b 1 1500 1500;"
             + "printer c 1 1500 1500;printer d 1 1500 1500;printer e 1 1500 1500;"
             + "printer f 1 1500 1500;printer g 1 1500 1500;printer h 1 1500 1500;";
-    private static final int SYNTAX = ColophonDetective.SYNTAX_ERROR;
-    private static final int RANGE = ColophonDetective.RANGE_ERROR;
-    private static final int NAME = ColophonDetective.NAME_ERROR;
-    private static final int LIMIT = ColophonDetective.LIMIT_ERROR;
+    private static final int SYNTAX = Texts.SYNTAX;
+    private static final int RANGE = Texts.RANGE;
+    private static final int NAME = Texts.NAME;
+    private static final int LIMIT = Texts.LIMIT;
 
     public static void main(String[] args) {
         promise1();
@@ -146,45 +146,15 @@ public final class InputTest {
         Check.due("all were read", x.nextClue(), -1);
     }
 
-    private static void sound(String text, int clues) {
-        ColophonDetective x = new ColophonDetective();
-        Check.send(x, 0, text);
-        try {
-            Check.due("load " + text, x.load(), clues);
-        } catch (IllegalArgumentException e) {
-            Check.due("load " + text, "an error at " + x.errorPosition(), "no error");
-        }
-        Check.due("code of " + text, x.errorCode(), 0);
-        Check.due("position in " + text, x.errorPosition(), -1);
-        Check.noArgument("the buffer is empty after " + text, () -> x.truncate(1));
-    }
-
-    private static void faulty(String text, int code, int position) {
-        ColophonDetective x = new ColophonDetective();
-        Check.send(x, 0, text);
-        Check.noArgument("load " + text, () -> x.load());
-        Check.due("code of " + text, x.errorCode(), code);
-        Check.due("position in " + text, x.errorPosition(), position);
-        Check.noArgument("the buffer is empty after " + text, () -> x.truncate(1));
-        Check.due("printers after " + text, x.printerCount(), 3);
-        Check.due("clues after " + text, x.clueCount(), 6);
-    }
-
-    /** The position is that of the bar in the text, which is not sent. */
-    private static void faultyAt(String text, int code) {
-        int bar = text.indexOf('|');
-        faulty(text.substring(0, bar) + text.substring(bar + 1), code, bar);
-    }
-
     private static void promise4() {
-        sound(PRINTER, 0);
-        sound(EIGHT, 0);
-        sound(PRINTER + "printer b 0 1450 1450;device a 0;device b 31;device a 0;type a 0;type b 15;"
+        Texts.sound(PRINTER, 0);
+        Texts.sound(EIGHT, 0);
+        Texts.sound(PRINTER + "printer b 0 1450 1450;device a 0;device b 31;device a 0;type a 0;type b 15;"
                 + "mark 1450 1450;mark 1999 1999;edition b 1450;edition a 1999;clue 1 device 31 1;"
                 + "clue 999 type 15 9;clue 1 mark 1 1;clue 1 city 0 1;clue 1 city 9 1;clue 1 year 1450 1;"
                 + "clue 1 year 1999 1;", 7);
-        sound(PRINTER + "clue 5 city 3 9;", 1);
-        sound("printer printe 1 1500 1500;printer device 9 1999 1999;device device 3;edition printe 1450;", 0);
+        Texts.sound(PRINTER + "clue 5 city 3 9;", 1);
+        Texts.sound("printer printe 1 1500 1500;printer device 9 1999 1999;device device 3;edition printe 1450;", 0);
         ColophonDetective x = Check.detectiveOf(PRINTER + "printer b 9 1450 1999;device b 31;type b 15;"
                 + "mark 1600 1700;edition b 1450;clue 7 mark 0 4;clue 9 year 1888 3;");
         Check.due("city", x.cityOf(1), 9);
@@ -205,37 +175,37 @@ public final class InputTest {
     }
 
     private static void promise4Tokens() {
-        sound("  printer   a  1  1494  1515  ;   ", 0);
-        sound("printer a1 1494 1515;device a2;clue1city 3 9;", 1);
-        sound("printer a 0001 1494 1515;", 0);
-        faultyAt("|", SYNTAX);
-        faultyAt("   |", SYNTAX);
-        faultyAt("printer a 1 1494 1515|", SYNTAX);
-        faultyAt("printer a 1 1494 1515   |", SYNTAX);
-        faultyAt("printer a |00001 1494 1515;", SYNTAX);
-        faultyAt("printer a |10000 1494 1515;", SYNTAX);
-        faultyAt("printer a 1 |149401515;", SYNTAX);
-        faultyAt("printer |abcdefg 1 1494 1515;", SYNTAX);
-        faultyAt("printer |1 1 1494 1515;", SYNTAX);
-        faultyAt("printer |; 1 1494 1515;", SYNTAX);
-        faultyAt("printer a |b 1494 1515;", SYNTAX);
-        faultyAt("printer a 1 1494 1515|", SYNTAX);
-        faultyAt("printer a 1 1494 1515 |printer", SYNTAX);
-        faultyAt("printer a 1 1494 1515|,", SYNTAX);
-        faultyAt("printer a 1 1494 1515;|;", SYNTAX);
-        faultyAt("|printera 1 1494 1515;", SYNTAX);
-        faultyAt("|print a 1 1494 1515;", SYNTAX);
-        faultyAt("|Printer a 1 1494 1515;", SYNTAX);
-        faultyAt("|pRinter a 1 1494 1515;", SYNTAX);
-        faultyAt("printer a|A 1 1494 1515;", SYNTAX);
-        faultyAt("printer a 1|\t1494 1515;", SYNTAX);
-        faultyAt("printer a 1|\n1494 1515;", SYNTAX);
-        faultyAt("printer a 1 1494|\0 1515;", SYNTAX);
-        faultyAt("printer a |-1 1494 1515;", SYNTAX);
+        Texts.sound("  printer   a  1  1494  1515  ;   ", 0);
+        Texts.sound("printer a1 1494 1515;device a2;clue1city 3 9;", 1);
+        Texts.sound("printer a 0001 1494 1515;", 0);
+        Texts.faultyAt("|", SYNTAX);
+        Texts.faultyAt("   |", SYNTAX);
+        Texts.faultyAt("printer a 1 1494 1515|", SYNTAX);
+        Texts.faultyAt("printer a 1 1494 1515   |", SYNTAX);
+        Texts.faultyAt("printer a |00001 1494 1515;", SYNTAX);
+        Texts.faultyAt("printer a |10000 1494 1515;", SYNTAX);
+        Texts.faultyAt("printer a 1 |149401515;", SYNTAX);
+        Texts.faultyAt("printer |abcdefg 1 1494 1515;", SYNTAX);
+        Texts.faultyAt("printer |1 1 1494 1515;", SYNTAX);
+        Texts.faultyAt("printer |; 1 1494 1515;", SYNTAX);
+        Texts.faultyAt("printer a |b 1494 1515;", SYNTAX);
+        Texts.faultyAt("printer a 1 1494 1515|", SYNTAX);
+        Texts.faultyAt("printer a 1 1494 1515 |printer", SYNTAX);
+        Texts.faultyAt("printer a 1 1494 1515|,", SYNTAX);
+        Texts.faultyAt("printer a 1 1494 1515;|;", SYNTAX);
+        Texts.faultyAt("|printera 1 1494 1515;", SYNTAX);
+        Texts.faultyAt("|print a 1 1494 1515;", SYNTAX);
+        Texts.faultyAt("|Printer a 1 1494 1515;", SYNTAX);
+        Texts.faultyAt("|pRinter a 1 1494 1515;", SYNTAX);
+        Texts.faultyAt("printer a|A 1 1494 1515;", SYNTAX);
+        Texts.faultyAt("printer a 1|\t1494 1515;", SYNTAX);
+        Texts.faultyAt("printer a 1|\n1494 1515;", SYNTAX);
+        Texts.faultyAt("printer a 1 1494|\0 1515;", SYNTAX);
+        Texts.faultyAt("printer a |-1 1494 1515;", SYNTAX);
         for (char c = 0; c < 256; c++) {
             if (c != ' ' && c != ';' && !(c >= 'a' && c <= 'z') && !(c >= '0' && c <= '9')) {
-                faulty(PRINTER + c, SYNTAX, PRINTER.length());
-                faulty("printer a" + c + "1 1494 1515;", SYNTAX, 9);
+                Texts.faulty(PRINTER + c, SYNTAX, PRINTER.length());
+                Texts.faulty("printer a" + c + "1 1494 1515;", SYNTAX, 9);
             }
         }
     }
@@ -245,82 +215,82 @@ public final class InputTest {
             "edition a 1500;", "clue 5 city 3 9;"};
         for (int first = 0; first < statements.length; first++) {
             if (first > 0) {
-                faulty(statements[first], SYNTAX, 0);
+                Texts.faulty(statements[first], SYNTAX, 0);
             }
             for (int second = 0; second < statements.length; second++) {
                 String text = PRINTER + statements[first];
                 if (second < first) {
-                    faulty(text + statements[second], SYNTAX, text.length());
+                    Texts.faulty(text + statements[second], SYNTAX, text.length());
                 } else if (second > 0) {
-                    sound(text + statements[second], first == 5 && second == 5 ? 2 : second == 5 ? 1 : 0);
+                    Texts.sound(text + statements[second], first == 5 && second == 5 ? 2 : second == 5 ? 1 : 0);
                 }
             }
         }
-        faultyAt(PRINTER + "|book a 1;", SYNTAX);
+        Texts.faultyAt(PRINTER + "|book a 1;", SYNTAX);
         for (String word : new String[] {"printer", "device", "type", "mark", "edition", "clue"}) {
-            faultyAt(PRINTER + "|x" + word.substring(1) + " a 1;", SYNTAX);
-            faultyAt(PRINTER + "|" + word.substring(0, word.length() - 1) + "x a 1;", SYNTAX);
-            faultyAt(PRINTER + "|" + word + "s a 1;", SYNTAX);
+            Texts.faultyAt(PRINTER + "|x" + word.substring(1) + " a 1;", SYNTAX);
+            Texts.faultyAt(PRINTER + "|" + word.substring(0, word.length() - 1) + "x a 1;", SYNTAX);
+            Texts.faultyAt(PRINTER + "|" + word + "s a 1;", SYNTAX);
         }
-        faultyAt(PRINTER + "|year a 1;", SYNTAX);
-        faultyAt(EIGHT + "type a 1;|printer", SYNTAX);
+        Texts.faultyAt(PRINTER + "|year a 1;", SYNTAX);
+        Texts.faultyAt(EIGHT + "type a 1;|printer", SYNTAX);
     }
 
     private static void promise4Statements() {
-        faultyAt("printer a |10 1494 1515;", RANGE);
-        faultyAt("printer a 1 |1449 1515;", RANGE);
-        faultyAt("printer a 1 |2000 2000;", RANGE);
-        faultyAt("printer a 1 1494 |1493;", RANGE);
-        faultyAt("printer a 1 1494 |2000;", RANGE);
-        faultyAt(PRINTER + "printer |a 1 1494 1515;", NAME);
-        faultyAt(PRINTER + "printer |aaaaaaa 1 1494 1515;", SYNTAX);
-        faultyAt(PRINTER + "device |b 1;", NAME);
-        faultyAt(PRINTER + "device |aa 1;", NAME);
-        faultyAt(PRINTER + "device |bbbbbbb 1;", SYNTAX);
-        faultyAt(PRINTER + "device |1 1;", SYNTAX);
-        faultyAt(PRINTER + "device a |32;", RANGE);
-        faultyAt(PRINTER + "device a |00032;", SYNTAX);
-        faultyAt(PRINTER + "device a 31|", SYNTAX);
-        faultyAt(PRINTER + "device a |;", SYNTAX);
-        faultyAt(PRINTER + "type |b 1;", NAME);
-        faultyAt(PRINTER + "type a |16;", RANGE);
-        faultyAt(PRINTER + "mark |1449 1500;", RANGE);
-        faultyAt(PRINTER + "mark |2000 2000;", RANGE);
-        faultyAt(PRINTER + "mark 1500 |1499;", RANGE);
-        faultyAt(PRINTER + "mark 1500 |2000;", RANGE);
-        faultyAt(PRINTER + "mark |a 1500 1500;", SYNTAX);
-        faultyAt(PRINTER + "edition |z 1500;", NAME);
-        faultyAt(PRINTER + "edition a |1449;", RANGE);
-        faultyAt(PRINTER + "edition a |2000;", RANGE);
-        faultyAt(PRINTER + "clue |0 city 3 9;", RANGE);
-        faultyAt(PRINTER + "clue |1000 city 3 9;", RANGE);
-        faultyAt(PRINTER + "clue 1 |town 3 9;", SYNTAX);
-        faultyAt(PRINTER + "clue 1 |3 3 9;", SYNTAX);
-        faultyAt(PRINTER + "clue 1 |citys 3 9;", SYNTAX);
-        faultyAt(PRINTER + "clue 1 device |32 9;", RANGE);
-        faultyAt(PRINTER + "clue 1 type |16 9;", RANGE);
-        faultyAt(PRINTER + "clue 1 mark |0 9;", RANGE);
-        faultyAt(PRINTER + "mark 1500 1500;clue 1 mark |1 9;", RANGE);
-        faultyAt(PRINTER + "clue 1 city |10 9;", RANGE);
-        faultyAt(PRINTER + "clue 1 year |1449 9;", RANGE);
-        faultyAt(PRINTER + "clue 1 year |2000 9;", RANGE);
-        faultyAt(PRINTER + "clue 1 city 9 |0;", RANGE);
-        faultyAt(PRINTER + "clue 1 city 9 |10;", RANGE);
-        faultyAt(PRINTER + "clue 1 city 9 1 |1;", SYNTAX);
+        Texts.faultyAt("printer a |10 1494 1515;", RANGE);
+        Texts.faultyAt("printer a 1 |1449 1515;", RANGE);
+        Texts.faultyAt("printer a 1 |2000 2000;", RANGE);
+        Texts.faultyAt("printer a 1 1494 |1493;", RANGE);
+        Texts.faultyAt("printer a 1 1494 |2000;", RANGE);
+        Texts.faultyAt(PRINTER + "printer |a 1 1494 1515;", NAME);
+        Texts.faultyAt(PRINTER + "printer |aaaaaaa 1 1494 1515;", SYNTAX);
+        Texts.faultyAt(PRINTER + "device |b 1;", NAME);
+        Texts.faultyAt(PRINTER + "device |aa 1;", NAME);
+        Texts.faultyAt(PRINTER + "device |bbbbbbb 1;", SYNTAX);
+        Texts.faultyAt(PRINTER + "device |1 1;", SYNTAX);
+        Texts.faultyAt(PRINTER + "device a |32;", RANGE);
+        Texts.faultyAt(PRINTER + "device a |00032;", SYNTAX);
+        Texts.faultyAt(PRINTER + "device a 31|", SYNTAX);
+        Texts.faultyAt(PRINTER + "device a |;", SYNTAX);
+        Texts.faultyAt(PRINTER + "type |b 1;", NAME);
+        Texts.faultyAt(PRINTER + "type a |16;", RANGE);
+        Texts.faultyAt(PRINTER + "mark |1449 1500;", RANGE);
+        Texts.faultyAt(PRINTER + "mark |2000 2000;", RANGE);
+        Texts.faultyAt(PRINTER + "mark 1500 |1499;", RANGE);
+        Texts.faultyAt(PRINTER + "mark 1500 |2000;", RANGE);
+        Texts.faultyAt(PRINTER + "mark |a 1500 1500;", SYNTAX);
+        Texts.faultyAt(PRINTER + "edition |z 1500;", NAME);
+        Texts.faultyAt(PRINTER + "edition a |1449;", RANGE);
+        Texts.faultyAt(PRINTER + "edition a |2000;", RANGE);
+        Texts.faultyAt(PRINTER + "clue |0 city 3 9;", RANGE);
+        Texts.faultyAt(PRINTER + "clue |1000 city 3 9;", RANGE);
+        Texts.faultyAt(PRINTER + "clue 1 |town 3 9;", SYNTAX);
+        Texts.faultyAt(PRINTER + "clue 1 |3 3 9;", SYNTAX);
+        Texts.faultyAt(PRINTER + "clue 1 |citys 3 9;", SYNTAX);
+        Texts.faultyAt(PRINTER + "clue 1 device |32 9;", RANGE);
+        Texts.faultyAt(PRINTER + "clue 1 type |16 9;", RANGE);
+        Texts.faultyAt(PRINTER + "clue 1 mark |0 9;", RANGE);
+        Texts.faultyAt(PRINTER + "mark 1500 1500;clue 1 mark |1 9;", RANGE);
+        Texts.faultyAt(PRINTER + "clue 1 city |10 9;", RANGE);
+        Texts.faultyAt(PRINTER + "clue 1 year |1449 9;", RANGE);
+        Texts.faultyAt(PRINTER + "clue 1 year |2000 9;", RANGE);
+        Texts.faultyAt(PRINTER + "clue 1 city 9 |0;", RANGE);
+        Texts.faultyAt(PRINTER + "clue 1 city 9 |10;", RANGE);
+        Texts.faultyAt(PRINTER + "clue 1 city 9 1 |1;", SYNTAX);
     }
 
     private static void promise4Limits() {
-        faultyAt(EIGHT + "|printer", LIMIT);
-        faultyAt(EIGHT + "|printer a 1 1500 1500;", LIMIT);
-        sound(PRINTER + "mark 1500 1500;".repeat(8) + "edition a 1500;", 0);
-        faultyAt(PRINTER + "mark 1500 1500;".repeat(8) + "|mark", LIMIT);
-        faultyAt(PRINTER + "mark 1500 1500;".repeat(8) + "edition a 1500;|mark", SYNTAX);
-        sound(PRINTER + "edition a 1500;".repeat(12), 0);
-        faultyAt(PRINTER + "edition a 1500;".repeat(12) + "|edition", LIMIT);
-        sound(PRINTER + "clue 5 city 3 9;".repeat(40), 40);
-        faultyAt(PRINTER + "clue 5 city 3 9;".repeat(40) + "|clue", LIMIT);
-        faultyAt(PRINTER + "clue 5 city 3 9;".repeat(40) + "|edition", SYNTAX);
-        sound(PRINTER + "device a 1;".repeat(60) + "type a 1;".repeat(60), 0);
+        Texts.faultyAt(EIGHT + "|printer", LIMIT);
+        Texts.faultyAt(EIGHT + "|printer a 1 1500 1500;", LIMIT);
+        Texts.sound(PRINTER + "mark 1500 1500;".repeat(8) + "edition a 1500;", 0);
+        Texts.faultyAt(PRINTER + "mark 1500 1500;".repeat(8) + "|mark", LIMIT);
+        Texts.faultyAt(PRINTER + "mark 1500 1500;".repeat(8) + "edition a 1500;|mark", SYNTAX);
+        Texts.sound(PRINTER + "edition a 1500;".repeat(12), 0);
+        Texts.faultyAt(PRINTER + "edition a 1500;".repeat(12) + "|edition", LIMIT);
+        Texts.sound(PRINTER + "clue 5 city 3 9;".repeat(40), 40);
+        Texts.faultyAt(PRINTER + "clue 5 city 3 9;".repeat(40) + "|clue", LIMIT);
+        Texts.faultyAt(PRINTER + "clue 5 city 3 9;".repeat(40) + "|edition", SYNTAX);
+        Texts.sound(PRINTER + "device a 1;".repeat(60) + "type a 1;".repeat(60), 0);
     }
 
     private static void promise4Replaces() {
@@ -392,63 +362,49 @@ public final class InputTest {
         Check.due("they are operations", x.undo(), 0);
     }
 
-    private static void faultyCommands(String barred, int code) {
-        int bar = barred.indexOf('|');
-        String text = barred.substring(0, bar) + barred.substring(bar + 1);
-        ColophonDetective x = new ColophonDetective();
-        x.read(1);
-        Check.send(x, 0, text);
-        Check.noArgument(text, () -> x.executeCommands());
-        Check.due("code of " + text, x.errorCode(), code);
-        Check.due("position in " + text, x.errorPosition(), bar);
-        Check.noArgument("the buffer is empty after " + text, () -> x.truncate(1));
-        Check.due("no command was executed of " + text, x.isRead(1), false);
-        Check.due("no operation: " + text, x.undo(), 0);
-    }
-
     private static void promise5Errors() {
-        faultyCommands("read 1;|look;", SYNTAX);
-        faultyCommands("read 1;read |0;", RANGE);
-        faultyCommands("read 1;read |41;", RANGE);
-        faultyCommands("read 1;read 40|", SYNTAX);
-        faultyCommands("read 1;|;", SYNTAX);
-        faultyCommands("read 1;|printer", SYNTAX);
-        faultyCommands("read 1;|device", SYNTAX);
-        faultyCommands("read 1;read |one", SYNTAX);
-        faultyCommands("read 1;read |00001;", SYNTAX);
-        faultyCommands("read 1;aside |40;", RANGE);
-        faultyCommands("read 1;aside |;", SYNTAX);
-        faultyCommands("read 1;back |40;", RANGE);
-        faultyCommands("read 1;weigh |40 1;", RANGE);
-        faultyCommands("read 1;weigh 39 |0;", RANGE);
-        faultyCommands("read 1;weigh 39 |10;", RANGE);
-        faultyCommands("read 1;weigh 39|", SYNTAX);
-        faultyCommands("read 1;lend |none aldus 4;", NAME);
-        faultyCommands("read 1;lend aldus |none 4;", NAME);
-        faultyCommands("read 1;lend |nonenon aldus 4;", SYNTAX);
-        faultyCommands("read 1;lend aldus |nonenon 4;", SYNTAX);
-        faultyCommands("read 1;lend aldus |4 4;", SYNTAX);
-        faultyCommands("read 1;lend aldus plantn |32;", RANGE);
-        faultyCommands("read 1;clue |0 city 1 1;", RANGE);
-        faultyCommands("read 1;clue |1000 city 1 1;", RANGE);
-        faultyCommands("read 1;clue 1 |read 1 1;", SYNTAX);
-        faultyCommands("read 1;clue 1 device |32 1;", RANGE);
-        faultyCommands("read 1;clue 1 type |16 1;", RANGE);
-        faultyCommands("read 1;clue 1 mark |2 1;", RANGE);
-        faultyCommands("read 1;clue 1 city |10 1;", RANGE);
-        faultyCommands("read 1;clue 1 year |1449 1;", RANGE);
-        faultyCommands("read 1;clue 1 city 1 |0;", RANGE);
-        faultyCommands("read 1;clue 1 city 1 |10;", RANGE);
-        faultyCommands("read 1;|#", SYNTAX);
+        Texts.faultyCommands("read 1;|look;", SYNTAX);
+        Texts.faultyCommands("read 1;read |0;", RANGE);
+        Texts.faultyCommands("read 1;read |41;", RANGE);
+        Texts.faultyCommands("read 1;read 40|", SYNTAX);
+        Texts.faultyCommands("read 1;|;", SYNTAX);
+        Texts.faultyCommands("read 1;|printer", SYNTAX);
+        Texts.faultyCommands("read 1;|device", SYNTAX);
+        Texts.faultyCommands("read 1;read |one", SYNTAX);
+        Texts.faultyCommands("read 1;read |00001;", SYNTAX);
+        Texts.faultyCommands("read 1;aside |40;", RANGE);
+        Texts.faultyCommands("read 1;aside |;", SYNTAX);
+        Texts.faultyCommands("read 1;back |40;", RANGE);
+        Texts.faultyCommands("read 1;weigh |40 1;", RANGE);
+        Texts.faultyCommands("read 1;weigh 39 |0;", RANGE);
+        Texts.faultyCommands("read 1;weigh 39 |10;", RANGE);
+        Texts.faultyCommands("read 1;weigh 39|", SYNTAX);
+        Texts.faultyCommands("read 1;lend |none aldus 4;", NAME);
+        Texts.faultyCommands("read 1;lend aldus |none 4;", NAME);
+        Texts.faultyCommands("read 1;lend |nonenon aldus 4;", SYNTAX);
+        Texts.faultyCommands("read 1;lend aldus |nonenon 4;", SYNTAX);
+        Texts.faultyCommands("read 1;lend aldus |4 4;", SYNTAX);
+        Texts.faultyCommands("read 1;lend aldus plantn |32;", RANGE);
+        Texts.faultyCommands("read 1;clue |0 city 1 1;", RANGE);
+        Texts.faultyCommands("read 1;clue |1000 city 1 1;", RANGE);
+        Texts.faultyCommands("read 1;clue 1 |read 1 1;", SYNTAX);
+        Texts.faultyCommands("read 1;clue 1 device |32 1;", RANGE);
+        Texts.faultyCommands("read 1;clue 1 type |16 1;", RANGE);
+        Texts.faultyCommands("read 1;clue 1 mark |2 1;", RANGE);
+        Texts.faultyCommands("read 1;clue 1 city |10 1;", RANGE);
+        Texts.faultyCommands("read 1;clue 1 year |1449 1;", RANGE);
+        Texts.faultyCommands("read 1;clue 1 city 1 |0;", RANGE);
+        Texts.faultyCommands("read 1;clue 1 city 1 |10;", RANGE);
+        Texts.faultyCommands("read 1;|#", SYNTAX);
         for (String word : new String[] {"clue", "read", "aside", "back", "weigh", "lend"}) {
-            faultyCommands("read 1;|x" + word.substring(1) + " 1;", SYNTAX);
-            faultyCommands("read 1;|" + word.substring(0, word.length() - 1) + "x 1;", SYNTAX);
-            faultyCommands("read 1;|" + word.substring(0, word.length() - 1) + " 1;", SYNTAX);
+            Texts.faultyCommands("read 1;|x" + word.substring(1) + " 1;", SYNTAX);
+            Texts.faultyCommands("read 1;|" + word.substring(0, word.length() - 1) + "x 1;", SYNTAX);
+            Texts.faultyCommands("read 1;|" + word.substring(0, word.length() - 1) + " 1;", SYNTAX);
         }
         for (String word : new String[] {"device", "type", "mark", "city", "year"}) {
-            faultyCommands("read 1;clue 1 |x" + word.substring(1) + " 1 1;", SYNTAX);
-            faultyCommands("read 1;clue 1 |" + word.substring(0, word.length() - 1) + "x 1 1;", SYNTAX);
-            faultyCommands("read 1;clue 1 |" + word + "s 1 1;", SYNTAX);
+            Texts.faultyCommands("read 1;clue 1 |x" + word.substring(1) + " 1 1;", SYNTAX);
+            Texts.faultyCommands("read 1;clue 1 |" + word.substring(0, word.length() - 1) + "x 1 1;", SYNTAX);
+            Texts.faultyCommands("read 1;clue 1 |" + word + "s 1 1;", SYNTAX);
         }
     }
 
@@ -456,11 +412,11 @@ public final class InputTest {
         ColophonDetective x = new ColophonDetective();
         Check.due("30 commands", Check.run(x, "read 1;".repeat(30)), 30);
         for (String word : new String[] {"clue", "read", "aside", "back", "weigh", "lend"}) {
-            faultyCommands("read 1;".repeat(30) + "|" + word, LIMIT);
-            faultyCommands("read 1;".repeat(30) + "|" + word + "s", SYNTAX);
+            Texts.faultyCommands("read 1;".repeat(30) + "|" + word, LIMIT);
+            Texts.faultyCommands("read 1;".repeat(30) + "|" + word + "s", SYNTAX);
         }
-        faultyCommands("read 1;".repeat(30) + "|;", SYNTAX);
-        faultyCommands("read 1;".repeat(30) + "|1", SYNTAX);
+        Texts.faultyCommands("read 1;".repeat(30) + "|;", SYNTAX);
+        Texts.faultyCommands("read 1;".repeat(30) + "|1", SYNTAX);
     }
 
     private static void promise5Stops() {

@@ -37,14 +37,14 @@ public final class VerdictTest {
             Check.due("city of b in " + year, x.explains(1, year, 3), false);
             Check.due("date for b in " + year, x.explains(1, year, 4), year == 1511);
         }
-        Check.noIndex("no printer", () -> x.explains(2, 1500, 0) ? 1 : 0);
-        Check.noIndex("no printer", () -> x.explains(-1, 1500, 0) ? 1 : 0);
-        Check.noIndex("no clue", () -> x.explains(0, 1500, 5) ? 1 : 0);
-        Check.noIndex("no clue", () -> x.explains(0, 1500, -1) ? 1 : 0);
-        Check.noIndex("the clue is checked before the year", () -> x.explains(0, 1449, 5) ? 1 : 0);
-        Check.noIndex("the printer is checked before the year", () -> x.explains(2, 2000, 0) ? 1 : 0);
-        Check.noArgument("1449", () -> x.explains(0, 1449, 0) ? 1 : 0);
-        Check.noArgument("2000", () -> x.explains(0, 2000, 0) ? 1 : 0);
+        Check.noIndex("no printer", () -> x.explains(2, 1500, 0));
+        Check.noIndex("no printer", () -> x.explains(-1, 1500, 0));
+        Check.noIndex("no clue", () -> x.explains(0, 1500, 5));
+        Check.noIndex("no clue", () -> x.explains(0, 1500, -1));
+        Check.noIndex("the clue is checked before the year", () -> x.explains(0, 1449, 5));
+        Check.noIndex("the printer is checked before the year", () -> x.explains(2, 2000, 0));
+        Check.noArgument("1449", () -> x.explains(0, 1449, 0));
+        Check.noArgument("2000", () -> x.explains(0, 2000, 0));
         ColophonDetective late = Check.detectiveOf("printer a 1 1999 1999;mark 1998 1998;mark 1999 1999;mark 1995 1995;"
                 + "clue 1 mark 0 1;clue 1 mark 1 2;clue 1 mark 2 4;");
         late.read(40);
@@ -292,9 +292,9 @@ public final class VerdictTest {
             x.read(3);
         }
         for (int wrong : new int[] {-1, 6, 40, Integer.MIN_VALUE, Integer.MAX_VALUE}) {
-            Check.noIndex(wrong + " against 0", () -> x.contradict(wrong, 0) ? 1 : 0);
-            Check.noIndex("0 against " + wrong, () -> x.contradict(0, wrong) ? 1 : 0);
-            Check.noIndex("against itself " + wrong, () -> x.contradict(wrong, wrong) ? 1 : 0);
+            Check.noIndex(wrong + " against 0", () -> x.contradict(wrong, 0));
+            Check.noIndex("0 against " + wrong, () -> x.contradict(0, wrong));
+            Check.noIndex("against itself " + wrong, () -> x.contradict(wrong, wrong));
             Check.noIndex("against " + wrong, () -> x.contradictionsOf(wrong));
         }
         x.addCityClue(1, 9, 1);
