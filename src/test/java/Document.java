@@ -18,8 +18,8 @@ final class Document {
     private static final List<String> TERMS = List.of("Printers and watermarks", "Clues", "Candidates",
             "Configuration text", "Commands", "Undo");
     // In the promises, a sentence without one of these tells what is asked for, and no boundary case.
-    private static final Pattern BOUNDARY = Pattern.compile("\\d|NONE|empty|any number|smallest|previous"
-            + "|\\b(if|not|no|nothing|everything|also|always|kept|keeps|most recent)\\b");
+    private static final Pattern BOUNDARY = Pattern.compile("\\d|NONE|empty|any number|smallest|previous|after that"
+            + "|\\b(if|not|no|[Nn]othing|everything|also|always|false|kept|keeps|most recent)\\b");
 
     private static final Map<String, List<String>> SENTENCES = sentences();
     private static final Set<String> TESTED = new HashSet<>();

@@ -1,8 +1,6 @@
 /** The boundary cases of the promises 8 and 10 to 27: printers, watermarks, editions and clues. */
 public final class FactsEdgeTest {
     private static final String ONE = Texts.PRINTER;
-    private static final String NO_PRINTER = "Throws `IndexOutOfBoundsException` if there is no such printer";
-    private static final String NO_CLUE = "Throws `IndexOutOfBoundsException` if there is no such clue";
     private static final String NO_YEAR = "Throws `IllegalArgumentException` if year is out of range";
     private static final int[] FAR_NUMBERS = {Integer.MIN_VALUE, -1000, -33, -32, -31, -17, -16, -15, -1, 16, 32, 33, 47,
         63, 64, 256, 65536, 1 << 30, Integer.MAX_VALUE};
@@ -54,27 +52,8 @@ public final class FactsEdgeTest {
         }
     }
 
-    private interface OfPrinter {
-        void ask(ColophonDetective detective, int printer);
-    }
-
-    /** For 1, 3 and 8 printers. A printer of an earlier configuration is none, either. */
-    private static void noPrinter(int promise, OfPrinter question) {
-        Document.about(promise, NO_PRINTER);
-        for (int count : new int[] {8, 3, 1}) {
-            ColophonDetective x = Check.detectiveOf(Texts.printers(8));
-            Check.send(x, 0, Texts.printers(count));
-            x.load();
-            for (int wrong : Check.outside(0, count - 1)) {
-                Check.noIndex("printer " + wrong + " of " + count, () -> question.ask(x, wrong));
-            }
-            question.ask(x, 0);
-            question.ask(x, count - 1);
-        }
-    }
-
     private static void noPrinterForCityOf() {
-        noPrinter(10, (x, printer) -> x.cityOf(printer));
+        Numbers.noPrinter(10, (x, printer) -> x.cityOf(printer));
     }
 
     private static void yearsOfIsActive() {
@@ -90,7 +69,7 @@ public final class FactsEdgeTest {
     }
 
     private static void noPrinterForIsActive() {
-        noPrinter(11, (x, printer) -> x.isActive(printer, 1500));
+        Numbers.noPrinter(11, (x, printer) -> x.isActive(printer, 1500));
         noPrinterButAWrongYear();
     }
 
@@ -122,8 +101,8 @@ public final class FactsEdgeTest {
     }
 
     private static void noPrinterForHasDevice() {
-        noPrinter(12, (x, printer) -> x.hasDevice(printer, 0));
-        noPrinter(12, (x, printer) -> x.hasDevice(printer, -1));
+        Numbers.noPrinter(12, (x, printer) -> x.hasDevice(printer, 0));
+        Numbers.noPrinter(12, (x, printer) -> x.hasDevice(printer, -1));
     }
 
     private static void anyTypeface() {
@@ -138,8 +117,8 @@ public final class FactsEdgeTest {
     }
 
     private static void noPrinterForHasTypeface() {
-        noPrinter(13, (x, printer) -> x.hasTypeface(printer, 0));
-        noPrinter(13, (x, printer) -> x.hasTypeface(printer, 99));
+        Numbers.noPrinter(13, (x, printer) -> x.hasTypeface(printer, 0));
+        Numbers.noPrinter(13, (x, printer) -> x.hasTypeface(printer, 99));
     }
 
     private static void ownersOfAnyDevice() {
@@ -243,37 +222,13 @@ public final class FactsEdgeTest {
         Check.due("the highest", x.weightOf(1), 9);
     }
 
-    private interface OfClue {
-        void ask(ColophonDetective detective, int clue);
-    }
-
     private static void noClue() {
-        noClue(19, (x, clue) -> x.kindOf(clue));
-        noClue(20, (x, clue) -> x.valueOf(clue));
-        noClue(21, (x, clue) -> x.pageOf(clue));
-        noClue(22, (x, clue) -> x.weightOf(clue));
-        noClue(23, (x, clue) -> x.isRead(clue));
-        noClue(24, (x, clue) -> x.isAside(clue));
-    }
-
-    /** For no clue, one clue and 40 clues. A clue whose addition was undone is none, either. */
-    private static void noClue(int promise, OfClue question) {
-        Document.about(promise, NO_CLUE);
-        for (int count : new int[] {0, 1, 39, 40}) {
-            ColophonDetective x = Check.detectiveOf(ONE + "clue 1 city 1 1;".repeat(count));
-            if (count < 40) {
-                x.addCityClue(1, 1, 1);
-                question.ask(x, count);
-                x.undo();
-            }
-            for (int wrong : Check.outside(0, count - 1)) {
-                Check.noIndex("clue " + wrong + " of " + count, () -> question.ask(x, wrong));
-            }
-            if (count > 0) {
-                question.ask(x, 0);
-                question.ask(x, count - 1);
-            }
-        }
+        Numbers.noClue(19, (x, clue) -> x.kindOf(clue));
+        Numbers.noClue(20, (x, clue) -> x.valueOf(clue));
+        Numbers.noClue(21, (x, clue) -> x.pageOf(clue));
+        Numbers.noClue(22, (x, clue) -> x.weightOf(clue));
+        Numbers.noClue(23, (x, clue) -> x.isRead(clue));
+        Numbers.noClue(24, (x, clue) -> x.isAside(clue));
     }
 
     private static void firstAndLastRank() {

@@ -2,7 +2,6 @@
 public final class OperationEdgeTest {
     private static final String ONE = Texts.PRINTER;
     private static final String MARKS = "mark 1500 1510;".repeat(3);
-    private static final String NO_CLUE = "Throws `IndexOutOfBoundsException` if there is no such clue";
 
     private interface Adder {
         int add(ColophonDetective detective, int page, int value, int weight);
@@ -19,6 +18,7 @@ public final class OperationEdgeTest {
         setAsideAlready();
         takeBackWithoutClue();
         takeBackWhatIsNotAside();
+        scoreAfterThat();
         noneAndAllUnexplained();
         verdictStays();
         weights();
@@ -174,16 +174,7 @@ public final class OperationEdgeTest {
     // ---- setting aside and taking back
 
     private static void setAsideWithoutClue() {
-        Document.about(56, NO_CLUE);
-        for (int count : new int[] {0, 1, 40}) {
-            ColophonDetective x = Check.detectiveOf(ONE + "clue 1 city 1 1;".repeat(count));
-            for (int wrong : Check.outside(0, count - 1)) {
-                Check.noIndex(wrong + " of " + count, () -> x.setAside(wrong));
-            }
-            if (count > 0) {
-                Check.due("the last of " + count, x.setAside(count - 1), 0);
-            }
-        }
+        Numbers.noClue(56, (x, clue) -> x.setAside(clue));
     }
 
     private static void setAsideAlready() {
@@ -208,21 +199,15 @@ public final class OperationEdgeTest {
     }
 
     private static void takeBackWithoutClue() {
-        Document.about(57, NO_CLUE);
-        for (int count : new int[] {0, 1, 40}) {
-            ColophonDetective x = Check.detectiveOf(ONE + "clue 1 city 1 1;".repeat(count));
-            for (int wrong : Check.outside(0, count - 1)) {
-                Check.noIndex(wrong + " of " + count, () -> x.takeBack(wrong));
-            }
-            if (count > 0) {
-                x.setAside(count - 1);
-                Check.due("the last of " + count, x.takeBack(count - 1), 0);
-            }
-        }
+        Numbers.noClue(57, (x, clue) -> x.takeBack(clue));
     }
 
     private static void takeBackWhatIsNotAside() {
         Document.about(57, "Throws `IllegalStateException` if the clue is not set aside");
+        ColophonDetective full = Check.detectiveOf(ONE + "clue 1 city 1 1;".repeat(40));
+        Check.noState("the last of forty", () -> full.takeBack(39));
+        full.setAside(39);
+        Check.due("the last of forty", full.takeBack(39), 0);
         ColophonDetective x = Check.detectiveOf(ONE + "clue 2 city 1 1;clue 1 city 9 2;");
         Check.noState("an unread clue", () -> x.takeBack(0));
         x.read(40);
@@ -238,6 +223,26 @@ public final class OperationEdgeTest {
         Check.noState("taken back already", () -> x.takeBack(1));
     }
 
+    private static ColophonDetective rivals() {
+        ColophonDetective x = Check.detectiveOf(Texts.printers(2) + "clue 9 city 1 5;clue 8 city 0 3;clue 7 city 0 1;");
+        x.read(2);
+        return x;
+    }
+
+    private static void scoreAfterThat() {
+        Document.about(56, "Returns the score of the verdict after that.");
+        ColophonDetective x = rivals();
+        Check.due("an unread clue", x.setAside(2), 5);
+        Check.due("a clue that another printer explains", x.setAside(1), 5);
+        Check.due("the last clue that counts", x.setAside(0), 0);
+        Document.about(57, "Returns the score of the verdict after that.");
+        Check.due("an unread clue", x.takeBack(2), 0);
+        Check.due("the first clue that counts", x.takeBack(1), 3);
+        Check.due("the verdict is another printer again", x.takeBack(0), 5);
+        Document.about(56, "Returns the score of the verdict after that.");
+        Check.due("the verdict becomes another printer", rivals().setAside(0), 3);
+    }
+
     private static void noneAndAllUnexplained() {
         Document.about(58, "Operation: sets all clues aside that count and that the verdict does not explain.");
         ColophonDetective none = Check.detectiveOf(ONE);
@@ -246,8 +251,10 @@ public final class OperationEdgeTest {
         ColophonDetective x = Check.detectiveOf(ONE + "clue 1 city 9 1;".repeat(40));
         Check.due("none is read", x.setAsideUnexplained(), 0);
         x.read(39);
-        x.setAside(0);
+        x.setAside(7);
         Check.due("all that count", x.setAsideUnexplained(), 38);
+        Check.due("the first", x.isAside(0), true);
+        Check.due("the last", x.isAside(38), true);
         Check.due("an unread clue is not set aside", x.isAside(39), false);
         Check.due("nothing counts any more", x.countingWeight(), 0);
         x.read(1);
@@ -258,7 +265,7 @@ public final class OperationEdgeTest {
         x.undo();
         Check.due("38 at once are undone at once", x.undo(), 3);
         Check.due("38 at once are undone at once", x.countingWeight(), 38);
-        Check.due("the one set aside before stays", x.isAside(0), true);
+        Check.due("the one set aside before stays", x.isAside(7), true);
     }
 
     private static void verdictStays() {
@@ -310,14 +317,8 @@ public final class OperationEdgeTest {
     }
 
     private static void setWeightWithoutClue() {
-        Document.about(59, NO_CLUE);
-        for (int count : new int[] {0, 1, 40}) {
-            ColophonDetective x = Check.detectiveOf(ONE + "clue 1 city 1 1;".repeat(count));
-            for (int wrong : Check.outside(0, count - 1)) {
-                Check.noIndex(wrong + " of " + count, () -> x.setWeight(wrong, 1));
-                Check.noIndex(wrong + " of " + count + " and no weight", () -> x.setWeight(wrong, 0));
-            }
-        }
+        Numbers.noClue(59, (x, clue) -> x.setWeight(clue, 1));
+        Numbers.noClue(59, (x, clue) -> x.setWeight(clue, clue >= 0 && clue < x.clueCount() ? 1 : 0));
     }
 
     // ---- devices
@@ -327,9 +328,10 @@ public final class OperationEdgeTest {
     }
 
     private static void deviceThatTheOtherHas() {
-        Document.about(60, "If the other one has it already, it keeps it.");
         ColophonDetective x = lenders();
+        Document.about(60, "Returns the number of printers that have the device after that.");
         Check.due("three become two", x.transferDevice(0, 1, 7), 2);
+        Document.about(60, "If the other one has it already, it keeps it.");
         Check.due("the one does not have it any more", x.hasDevice(0, 7), false);
         Check.due("the other one has it", x.hasDevice(1, 7), true);
         Check.due("two become one", x.transferDevice(7, 1, 7), 1);

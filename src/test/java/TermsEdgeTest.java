@@ -40,6 +40,7 @@ public final class TermsEdgeTest {
         contradictionsOfCluesThatDoNotCount();
         editionsOneYearApart();
         Document.wasTested("Candidates");
+        eachOperationIsUndone();
         commandsAreOneOperation();
         eightOperations();
         ringOfOperations();
@@ -433,6 +434,11 @@ public final class TermsEdgeTest {
             Check.due("the score after " + read, x.verdictScore(), due[read][2]);
             x.read(1);
         }
+        ColophonDetective last = Check.detectiveOf(Texts.printers(8) + "clue 9 city 7 1;clue 8 year 1510 1;");
+        last.read(40);
+        Check.due("the last printer", last.verdictPrinter(), 7);
+        Check.due("the year of the last printer", last.verdictYear(), 1510);
+        Check.due("the score of the last printer", last.verdictScore(), 2);
     }
 
     private static void noCandidateExplainsBoth() {
@@ -485,6 +491,37 @@ public final class TermsEdgeTest {
 
     private static void aboutUndo(String words) {
         Document.about("Undo", words);
+    }
+
+    private interface Operation {
+        void perform(ColophonDetective detective);
+    }
+
+    private static void eachOperationIsUndone() {
+        aboutUndo("The methods in the section \"Operations\", and executeCommands, are operations");
+        isUndone("addDeviceClue", x -> x.addDeviceClue(999, 7, 9));
+        isUndone("addTypefaceClue", x -> x.addTypefaceClue(999, 1, 9));
+        isUndone("addWatermarkClue", x -> x.addWatermarkClue(999, 1, 9));
+        isUndone("addCityClue", x -> x.addCityClue(999, 1, 9));
+        isUndone("addDateClue", x -> x.addDateClue(999, 1500, 9));
+        isUndone("read", x -> x.read(40));
+        isUndone("setAside", x -> x.setAside(0));
+        isUndone("takeBack", x -> x.takeBack(1));
+        isUndone("setAsideUnexplained", x -> x.setAsideUnexplained());
+        isUndone("setWeight", x -> x.setWeight(0, 9));
+        isUndone("transferDevice", x -> x.transferDevice(0, 1, 4));
+        isUndone("executeCommands", x -> Check.run(x, "read 1;"));
+    }
+
+    private static void isUndone(String what, Operation operation) {
+        ColophonDetective x = busy();
+        x.addCityClue(999, 9, 9);
+        x.read(1);
+        String before = Check.stateOf(x);
+        operation.perform(x);
+        Check.due(what + " changes something", Check.stateOf(x).equals(before), false);
+        Check.due(what + " is undone", x.undo(), 4);
+        Check.due(what + " is undone", Check.stateOf(x), before);
     }
 
     private static void commandsAreOneOperation() {

@@ -73,6 +73,7 @@ public final class TextEdgeTest {
             if (first > 0) {
                 Texts.faultyAt("|" + statements[first], SYNTAX);
             }
+            Texts.faultyAt(ONE + "|x" + statements[first].substring(1), SYNTAX);
         }
     }
 
@@ -100,8 +101,8 @@ public final class TextEdgeTest {
 
     private static void kinds() {
         about("KIND is one of the words device, type, mark, city and year.");
-        String[] words = {"devic", "devices", "typ", "types", "mar", "marks", "cit", "citys", "yea", "years", "date",
-            "watermark", "typeface", "clue", "a", "printer"};
+        String[] words = {"devic", "devices", "xevice", "typ", "types", "xype", "mar", "marks", "xark", "cit", "citys",
+            "xity", "yea", "years", "xear", "date", "watermark", "typeface", "clue", "a", "printer"};
         for (String word : words) {
             Texts.faultyAt(ONE + "mark 1500 1500;clue 1 |" + word + " 0 1;", SYNTAX);
             Texts.faultyCommands("clue 1 |" + word + " 0 1;", SYNTAX);
@@ -457,6 +458,7 @@ public final class TextEdgeTest {
         for (String word : VERBS) {
             Texts.faultyCommands("|" + word + "s 1;", SYNTAX);
             Texts.faultyCommands("|" + word.substring(1) + " 1;", SYNTAX);
+            Texts.faultyCommands("|x" + word.substring(1) + " 1;", SYNTAX);
         }
     }
 

@@ -18,13 +18,26 @@ final class Texts {
         return text.toString();
     }
 
+    private interface Parser {
+        int parse(ColophonDetective detective);
+    }
+
     static void sound(String text, int clues) {
+        parsed(text, clues, x -> x.load());
+    }
+
+    /** All commands of a text are executed by a new detective. */
+    static void soundCommands(String text, int commands) {
+        parsed(text, commands, x -> x.executeCommands());
+    }
+
+    private static void parsed(String text, int due, Parser parser) {
         ColophonDetective x = new ColophonDetective();
         Check.send(x, 0, text);
         try {
-            Check.due("load " + text, x.load(), clues);
+            Check.due("answer to " + text, parser.parse(x), due);
         } catch (IllegalArgumentException e) {
-            Check.due("load " + text, "an error at " + x.errorPosition(), "no error");
+            Check.due("answer to " + text, "an error at " + x.errorPosition(), "no error");
         }
         Check.due("code of " + text, x.errorCode(), 0);
         Check.due("position in " + text, x.errorPosition(), -1);
@@ -46,20 +59,6 @@ final class Texts {
     static void faultyAt(String barred, int code) {
         int bar = barred.indexOf('|');
         faulty(barred.substring(0, bar) + barred.substring(bar + 1), code, bar);
-    }
-
-    /** All commands of a text are executed by a new detective. */
-    static void soundCommands(String text, int commands) {
-        ColophonDetective x = new ColophonDetective();
-        Check.send(x, 0, text);
-        try {
-            Check.due("commands of " + text, x.executeCommands(), commands);
-        } catch (IllegalArgumentException e) {
-            Check.due("commands of " + text, "an error at " + x.errorPosition(), "no error");
-        }
-        Check.due("code of " + text, x.errorCode(), 0);
-        Check.due("position in " + text, x.errorPosition(), -1);
-        Check.noArgument("the buffer is empty after " + text, () -> x.truncate(1));
     }
 
     /** As faultyAt, for a command text. */

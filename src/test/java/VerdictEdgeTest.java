@@ -1,8 +1,6 @@
 /** The boundary cases of the promises 28 to 49: candidates, the ranking, the verdict and predictions. */
 public final class VerdictEdgeTest {
     private static final String ONE = Texts.PRINTER;
-    private static final String NO_PRINTER = "Throws `IndexOutOfBoundsException` if there is no such printer";
-    private static final String NO_CLUE = "Throws `IndexOutOfBoundsException` if there is no such clue";
     private static final String NO_YEAR = "Throws `IllegalArgumentException` if year is out of range";
     private static final String NO_COUNT = "Throws `IllegalArgumentException` if count is out of range";
     private static final int[] YEARS = Check.outside(1450, 1999);
@@ -122,15 +120,10 @@ public final class VerdictEdgeTest {
     }
 
     private static void scoreWithoutPrinterOrYear() {
-        Document.about(29, NO_PRINTER);
-        ColophonDetective x = Check.detectiveOf("printer a 1 1450 1999;printer b 1 1450 1999;");
-        for (int wrong : Check.outside(0, 1)) {
-            Check.noIndex("printer " + wrong, () -> x.score(wrong, 1500));
-        }
-        for (int year : YEARS) {
-            Check.noIndex("no printer in " + year, () -> x.score(2, year));
-        }
+        Numbers.noPrinter(29, (x, printer) -> x.score(printer, 1500));
+        Numbers.noPrinter(29, (x, printer) -> x.score(printer, printer >= 0 && printer < x.printerCount() ? 1500 : 1449));
         Document.about(29, NO_YEAR);
+        ColophonDetective x = Check.detectiveOf("printer a 1 1450 1999;");
         for (int year : YEARS) {
             Check.noArgument("in " + year, () -> x.score(0, year));
         }
@@ -139,23 +132,9 @@ public final class VerdictEdgeTest {
     // ---- best years and the ranking
 
     private static void bestsWithoutPrinter() {
-        for (int count : new int[] {1, 3, 8}) {
-            ColophonDetective x = Check.detectiveOf(Texts.printers(count));
-            for (int wrong : Check.outside(0, count - 1)) {
-                Document.about(30, NO_PRINTER);
-                Check.noIndex("printer " + wrong + " of " + count, () -> x.bestYear(wrong));
-                Document.about(31, NO_PRINTER);
-                Check.noIndex("printer " + wrong + " of " + count, () -> x.bestScore(wrong));
-                Document.about(32, NO_PRINTER);
-                Check.noIndex("printer " + wrong + " of " + count, () -> x.bestYears(wrong));
-            }
-            Document.about(30, NO_PRINTER);
-            Check.due("the last of " + count, x.bestYear(count - 1), 1500);
-            Document.about(31, NO_PRINTER);
-            Check.due("the last of " + count, x.bestScore(count - 1), 0);
-            Document.about(32, NO_PRINTER);
-            Check.due("the last of " + count, x.bestYears(count - 1), 11);
-        }
+        Numbers.noPrinter(30, (x, printer) -> x.bestYear(printer));
+        Numbers.noPrinter(31, (x, printer) -> x.bestScore(printer));
+        Numbers.noPrinter(32, (x, printer) -> x.bestYears(printer));
     }
 
     private static void atLeastOneBestYear() {
@@ -305,30 +284,15 @@ public final class VerdictEdgeTest {
     }
 
     private static void contradictWithoutClue() {
-        Document.about(41, NO_CLUE);
-        for (int count : new int[] {0, 1, 40}) {
-            ColophonDetective x = Check.detectiveOf(ONE + "clue 1 city 1 1;".repeat(count));
-            for (int wrong : Check.outside(0, count - 1)) {
-                Check.noIndex("the same wrong clue " + wrong, () -> x.contradict(wrong, wrong));
-                if (count > 0) {
-                    Check.noIndex(wrong + " against the last", () -> x.contradict(wrong, x.clueCount() - 1));
-                    Check.noIndex("the last against " + wrong, () -> x.contradict(x.clueCount() - 1, wrong));
-                }
-            }
-        }
+        Numbers.noClue(41, (x, clue) -> x.contradict(clue, clue));
+        Numbers.noClue(41, (x, clue) -> x.contradict(clue, 0));
+        Numbers.noClue(41, (x, clue) -> x.contradict(0, clue));
+        Numbers.noClue(41, (x, clue) -> x.contradict(clue, x.clueCount() - 1));
+        Numbers.noClue(41, (x, clue) -> x.contradict(x.clueCount() - 1, clue));
     }
 
     private static void contradictionsWithoutClue() {
-        Document.about(42, NO_CLUE);
-        for (int count : new int[] {0, 1, 40}) {
-            ColophonDetective x = Check.detectiveOf(ONE + "clue 1 city 1 1;".repeat(count));
-            for (int wrong : Check.outside(0, count - 1)) {
-                Check.noIndex(wrong + " of " + count, () -> x.contradictionsOf(wrong));
-            }
-            if (count > 0) {
-                Check.due("the last of " + count, x.contradictionsOf(count - 1), 0);
-            }
-        }
+        Numbers.noClue(42, (x, clue) -> x.contradictionsOf(clue));
     }
 
     private static void noneAndAllContradict() {
